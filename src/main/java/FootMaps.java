@@ -157,8 +157,7 @@ public final class FootMaps {
             return refuse(BAD_NUMBER);
         }
         int had = now.kind[cell];
-        now.kind[cell] = kind;
-        now.height[cell] = height;
+        now.lay(cell, kind, height);
         return accept(had);
     }
 
@@ -288,7 +287,8 @@ public final class FootMaps {
         int told = 0;
         blots = 0;
         for (int at = 0; at < length; at += 3) {
-            if (at + 2 < length && lay(reader.tape[at], reader.tape[at + 1], reader.tape[at + 2])) {
+            if (at + 2 < length && canLie(reader.tape[at], reader.tape[at + 1], reader.tape[at + 2])) {
+                now.lay(reader.tape[at], reader.tape[at + 1], reader.tape[at + 2]);
                 told++;
             } else {
                 blots++;
@@ -512,7 +512,7 @@ public final class FootMaps {
         int all = now.mappedBy(everyone);
         int best = everyone;
         for (int who = 0; who < everyone; who++) {
-            if (now.mappedBy(who) == all && isFewerOrLower(who, best)) {
+            if (now.mappedBy(who) == all && Integer.bitCount(who) < Integer.bitCount(best)) {
                 best = who;
             }
         }
@@ -664,15 +664,6 @@ public final class FootMaps {
         return told < 0 ? refuse(told) : accept(told);
     }
 
-    private boolean lay(int cell, int kind, int height) {
-        if (!canLie(cell, kind, height)) {
-            return false;
-        }
-        now.kind[cell] = kind;
-        now.height[cell] = height;
-        return true;
-    }
-
     private int tryStep(int walker, int way) {
         if (!isWayAside(way)) {
             return BAD_NUMBER;
@@ -800,11 +791,6 @@ public final class FootMaps {
         return most;
     }
 
-    private static boolean isFewerOrLower(int who, int than) {
-        int fewer = Integer.bitCount(who) - Integer.bitCount(than);
-        return fewer < 0 || (fewer == 0 && who < than);
-    }
-
     private static long nextDraw(long draw) {
         return (draw * DRAW_TIMES + DRAW_MORE) % DRAW_MODULO;
     }
@@ -895,6 +881,11 @@ public final class FootMaps {
             }
             lawCount = other.lawCount;
             force = other.force;
+        }
+
+        void lay(int where, int what, int howHigh) {
+            kind[where] = what;
+            height[where] = howHigh;
         }
 
         boolean hasWalker(int walker) {
