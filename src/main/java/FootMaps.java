@@ -564,7 +564,7 @@ public final class FootMaps {
         int costs = 0;
         for (int time = 0; time < n && paper.terms[MINUTE] < MOST_TERM[MINUTE]; time++) {
             draw = nextDraw(draw);
-            int walker = (int) (draw % paper.walkers);
+            int walker = (int) (draw % now.walkers);
             draw = nextDraw(draw);
             int way = (int) (draw % MOST_WAY) + 1;
             costs += stepOnPaper(walker, way);

@@ -409,6 +409,12 @@ public final class PromisesTest {
         lawFault("bars bars", 5);
         lawFault("bar", 0);
         lawFault("Bars", 0);
+        lawFault("barsz", 0);
+        lawFault("bars{", 4);
+        lawFault("bars`", 4);
+        lawFault(repeat(";", 400), 0);
+        lawFault("bars" + repeat(" ", 396), -1);
+        lawFault("bars;" + repeat(" ", 395), 400);
         lawFault("barsif1=1", 0);
         lawFault("bars if1=1", -1);
         lawFault("bars\tif 1=1", 4);
@@ -569,10 +575,20 @@ public final class PromisesTest {
         orderFault(repeat("pass;", 12) + "pass", 60);
         orderFault("pass if " + repeat("at 0+", 49) + "1=1", 255);
         orderFault("pass times 20 if " + repeat("at 0+", 48) + "1=at 0+1", 264);
+        orderFault("step " + repeat("[", 9), 13);
+        orderFault("step 0 to " + repeat("[", 9), 18);
+        orderFault("pass if " + repeat("(", 9), 16);
+        orderFault("pass times 1001", 11);
         FootMaps x = new FootMaps();
         due("50 parts", orders(x, "pass times 20 if " + repeat("at 0+", 48) + "1=at 0"), 0);
         due("twelve", orders(x, repeat("pass;", 11) + "pass"), 12);
         due("most", orders(x, "pass times 20 if kind 24 = 0"), 20);
+        x.walker(12, 1);
+        due("8 brackets", orders(x, "step " + repeat("[", 8) + "0" + repeat("]", 8) + " to " + repeat("[", 8) + "1"
+            + repeat("]", 8) + " times 1 if " + repeat("(", 8) + "1=1" + repeat(")", 8)), 1);
+        x.cell(0, 3, 0);
+        due("kind of the first", orders(x, "pass if kind 0 = 3"), 1);
+        due("at and mapped", orders(x, "pass if at 0 = 17; pass if mapped 0 = 5; pass if mapped 3 = 0 - 1"), 3);
     }
 
     private static void orderRuns() {
@@ -620,6 +636,7 @@ public final class PromisesTest {
         due("as it was", y.of(0, 0), 0);
         due("only the call was refused", y.count(6), 0);
         due("only the call was refused", y.count(8), 1);
+        keptDeeds();
         String[] not = {"step 0 to 0", "step 0 to 5", "step 2 to 1", "step 0 - 1 to 1", "step 0 to 3", "join 0 with 2",
             "smear 25 of 0", "smear 24 of 0", "smear 0 of 7", "step 1 / 0 to 1", "step 0 to 1 % 0", "join 1 with 1"};
         for (String n : not) {
@@ -635,6 +652,40 @@ public final class PromisesTest {
         due("fault", y.fault(), 5);
         due("stopped", y.stopped(), -1);
         due("minute", y.count(12), 999);
+    }
+
+    /** Orders that can't be push out of what can be undone nothing that was there. */
+    private static void keptDeeds() {
+        FootMaps x = new FootMaps();
+        x.walker(0, 1);
+        x.walker(2, 1);
+        x.cell(1, 3, 0);
+        x.cell(2, 2, 0);
+        x.step(0, 2);
+        x.step(1, 4);
+        x.step(1, 1);
+        x.step(1, 3);
+        x.join(1, 0);
+        x.smear(2, 0);
+        due("can't be", orders(x, "step 1 to 1; smear 1 of 1; pass; step 0 to 1; join 0 with 1; step 0 to 2 times 9"), -3);
+        due("can't be", orders(x, "pass times 20; smear 24 of 1"), -3);
+        due("to undo", x.count(4), 6);
+        due("a smear", x.undo(), 2);
+        due("kind", x.sheet(0, 2), 2);
+        due("a join", x.undo(), 1);
+        due("one", x.of(0, 4), 1 | 1 << 1 | 1 << 2 | 1 << 6);
+        due("the other", x.of(1, 4), 1 | 1 << 1 | 1 << 2 | 1 << 5 | 1 << 6 | 1 << 7 | 1 << 11);
+        due("a step", x.undo(), 0);
+        due("where", x.of(1, 0), 6);
+        due("a step", x.undo(), 0);
+        due("where", x.of(1, 0), 1);
+        due("sheet", x.of(1, 4), 1 | 1 << 1 | 1 << 2 | 1 << 6);
+        due("kind", x.sheet(1, 1), 3);
+        due("a step", x.undo(), 0);
+        due("where", x.of(1, 0), 2);
+        due("a step", x.undo(), 0);
+        due("where", x.of(0, 0), 0);
+        due("blank", x.count(1), 0);
     }
 
     private static void forces() {
@@ -930,6 +981,12 @@ public final class PromisesTest {
         due("of the other", x.stale(1), 0);
         x.cell(17, 0, 0);
         due("so again", x.stale(0), 0);
+        FootMaps z = new FootMaps();
+        z.walker(1, 1);
+        z.step(0, 4);
+        z.cell(0, 1, 0);
+        z.cell(5, 3, 0);
+        due("the first, too", z.stale(0), 1 | 1 << 5);
 
         // 0 has 12 16 17 18 22; 1 has 2 6 7 8 12
         due("none", x.both(-1), 0);
@@ -1092,6 +1149,7 @@ public final class PromisesTest {
         FootMaps x = new FootMaps();
         due("no walkers", x.days(0, 1), -3);
         due("can't be", x.days(-1, 1), -1);
+        due("-1 first", x.days(0, 61), -1);
         x.walker(12, 1);
         due("seed", x.days(-1, 1), -1);
         due("seed", x.days(1000001, 1), -1);
