@@ -1721,37 +1721,29 @@ public final class FootMaps {
         }
 
         void countTo(int goal) {
-            Arrays.fill(counts, FAR);
-            counts[goal] = 0;
-            boolean changed = true;
-            for (int sweep = 0; sweep < CELLS && changed; sweep++) {
-                changed = false;
-                for (int from = 0; from < CELLS; from++) {
-                    for (int way = 1; way <= MOST_WAY; way++) {
-                        int to = neighbour(from, way);
-                        int cost = priceOf(from, way);
-                        if (cost > 0 && to != NONE && counts[to] + cost < counts[from]) {
-                            counts[from] = counts[to] + cost;
-                            changed = true;
-                        }
-                    }
-                }
-            }
+            countAll(goal, true);
         }
 
         void countFrom(int start) {
+            countAll(start, false);
+        }
+
+        /** What it costs from each cell to the one, if backwards, else from the one to each cell. */
+        private void countAll(int one, boolean backwards) {
             Arrays.fill(counts, FAR);
-            counts[start] = 0;
+            counts[one] = 0;
             boolean changed = true;
             for (int sweep = 0; sweep < CELLS && changed; sweep++) {
                 changed = false;
                 for (int from = 0; from < CELLS; from++) {
                     for (int way = 1; way <= MOST_WAY; way++) {
                         int to = neighbour(from, way);
-                        int cost = priceOf(from, way);
-                        if (cost > 0 && to != NONE && counts[from] + cost < counts[to]) {
-                            counts[to] = counts[from] + cost;
-                            changed = true;
+                        if (to != NONE && priceOf(from, way) > 0) {
+                            int near = backwards ? to : from;
+                            int distant = backwards ? from : to;
+                            int count = counts[near] + priceOf(from, way);
+                            changed |= count < counts[distant];
+                            counts[distant] = Math.min(counts[distant], count);
                         }
                     }
                 }
