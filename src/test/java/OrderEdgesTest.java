@@ -2,6 +2,7 @@
 public final class OrderEdgesTest {
     public static void main(String[] args) {
         orderClauses();
+        whatOrdersTake();
         times();
         orderWords();
         partsAside();
@@ -70,6 +71,29 @@ public final class OrderEdgesTest {
         orderFault("sees 1", 0);
         orderFault("bars", 0);
         orderFault("pass;", 5);
+    }
+
+    private static void whatOrdersTake() {
+        Edges.says("II", "(a WALKER, a WAY; two WALKERS; a CELL, a WALKER; a MINUTE.)");
+        FootMaps x = Edges.with(6, 6);
+        Edges.due("walker 0 by way 4", Edges.orders(x, "step 0 to 4"), 1);
+        Edges.due("walker 1 by way 4, to the edge", Edges.orders(x, "step 1 to 4"), 1);
+        Edges.due("no walker 4", Edges.orders(x, "step 4 to 1"), -3);
+        Edges.due("no way 0", Edges.orders(x, "step 1 to 0"), -3);
+        Edges.due("beyond the edge", Edges.orders(x, "step 1 to 4"), -3);
+        Edges.due("cell 10 of walker 1", Edges.orders(x, "smear 10 of 1"), 1);
+        Edges.due("the other one has it", x.sheet(0, 10), 0);
+        Edges.due("no walker 10", Edges.orders(x, "smear 1 of 10"), -3);
+        Edges.due("no cell 25", Edges.orders(x, "smear 25 of 1"), -3);
+        Edges.due("both walkers", Edges.orders(x, "join 1 with 0"), 1);
+        Edges.due("it has it again", x.sheet(1, 10), 0);
+        Edges.due("no walker 2", Edges.orders(x, "join 1 with 2"), -3);
+        Edges.due("no walker below 0", Edges.orders(x, "join 0-1 with 1"), -3);
+        Edges.due("a minute", Edges.orders(x, "pass"), 1);
+        Edges.due("it has passed", x.count(12), 1);
+        x.terms(0, 998);
+        Edges.due("two minutes, one too many", Edges.orders(x, "pass times 2"), -3);
+        Edges.due("none has passed", x.count(12), 998);
     }
 
     private static void times() {
