@@ -273,6 +273,23 @@ public final class DaysEdgesTest {
             Edges.due("the yard", x.yard(), Edges.bits(0, 5, 10, 15, 20));
             Edges.due("smears", x.count(13), 7);
         }
+        FootMaps other = new FootMaps();
+        other.image(1);
+        other.walker(7, 5);
+        other.wants(0, 3);
+        other.glimpse(4, 4);
+        other.glimpse(3, 4);
+        other.image(0);
+        other.back(1);
+        other.walker(8, 8);
+        other.wants(0, 5);
+        other.glimpse(2, 4);
+        other.glimpse(1, 3);
+        other.back(0);
+        Edges.due("the cell of the walker who was there then", other.of(0, 0), 7);
+        Edges.due("its pace", other.of(0, 1), 5);
+        Edges.due("its wants", other.of(0, 2), 3);
+        Edges.due("what was glimpsed then", other.yard(), 1);
         FootMaps laws = Edges.with(12);
         laws.image(1);
         Edges.law(laws, "costs 5");

@@ -10,6 +10,7 @@ public final class OrderEdgesTest {
         asked();
         wordsTold();
         cantBe();
+        deedsAheadOfOrders();
         stepping();
         joining();
         smearing();
@@ -135,7 +136,8 @@ public final class OrderEdgesTest {
         orderFault("pass if kind 25=0", 13);
         orderFault("pass if kind=0", 12);
         orderFault("pass if kind [3]=0", 13);
-        for (String word : new String[] {"walker", "height", "rise", "known", "pace", "mood", "x"}) {
+        for (String word : new String[] {"walker", "height", "rise", "known", "pace", "mood", "x",
+            "costs", "sees", "bars", "if", "or", "and", "step", "join", "smear", "pass", "to", "with", "of", "times"}) {
             orderFault("pass if " + word + "=0", 8);
         }
         orderFault("pass if minute 0=0", 15);
@@ -245,6 +247,49 @@ public final class OrderEdgesTest {
         }
     }
 
+    /** Sixteen deeds of all kinds, then orders with more than sixteen that are taken back. */
+    private static void deedsAheadOfOrders() {
+        Edges.says("II", "all is as it was ahead of it.");
+        FootMaps x = Edges.with(6, 8);
+        layKinds(x, 0);
+        String[] deeds = {"step 0 to 2", "step 1 to 4", "join 1 with 0", "smear 7 of 1", "pass", "step 0 to 1", "step 0 to 3", "join 0 with 1",
+            "join 1 with 0", "smear 12 of 0", "smear 8 of 1", "pass", "step 0 to 3", "step 1 to 3", "pass", "smear 3 of 1"};
+        String[] ahead = new String[deeds.length];
+        for (int i = 0; i < deeds.length; i++) {
+            ahead[i] = seen(x);
+            Edges.due(deeds[i], Edges.orders(x, deeds[i]), 1);
+        }
+        Edges.due("sixteen can be undone", x.count(4), 16);
+        layKinds(x, 1);
+        String last = seen(x);
+        Edges.due("orders", Edges.orders(x, "step 0 to 1;step 0 to 3;step 1 to 1;step 1 to 3;join 0 with 1 times 20;step 0 to 0"), -3);
+        Edges.same("behind the orders", seen(x), last);
+        for (int i = deeds.length - 1; i >= 0; i--) {
+            x.undo();
+            Edges.same("when \"" + deeds[i] + "\" is undone", seen(x), ahead[i]);
+        }
+        Edges.due("nothing more", x.undo(), -3);
+    }
+
+    private static void layKinds(FootMaps x, int more) {
+        int[] row = new int[75];
+        for (int cell = 0; cell < 25; cell++) {
+            row[3 * cell] = cell;
+            row[3 * cell + 1] = (cell + more) % 4;
+        }
+        Edges.tape(x, row);
+        x.row();
+    }
+
+    private static String seen(FootMaps x) {
+        StringBuilder seen = new StringBuilder().append(x.count(12));
+        for (int walker = 0; walker < 2; walker++) {
+            seen.append(' ').append(x.of(walker, 0)).append(' ').append(x.of(walker, 4));
+            seen.append(' ').append(x.sheet(walker, 7)).append(x.sheet(walker, 2));
+        }
+        return seen.toString();
+    }
+
     private static void stepping() {
         Edges.says("III", "To STEP a WAY 1 .. 4 within the edge, not BARRED: the WALKER is there; on its SHEET comes up what it SEES from there, as it is now (also where there was another KIND).");
         FootMaps x = Edges.with(0);
@@ -261,6 +306,18 @@ public final class OrderEdgesTest {
         x.step(0, 1);
         Edges.due("another kind now, which it sees", x.sheet(0, 1), 1);
         Edges.due("another kind now, which it does not see", x.sheet(0, 2), 0);
+        for (int was = 0; was < 4; was++) {
+            for (int is = 0; is < 4; is++) {
+                FootMaps kinds = Edges.with(12);
+                kinds.cell(12, was, 0);
+                kinds.step(0, 2);
+                kinds.cell(12, is, 0);
+                kinds.step(0, 1);
+                Edges.due("kind " + was + ", not seen again", kinds.sheet(0, 12), was);
+                kinds.step(0, 3);
+                Edges.due("kind " + is + " where there was kind " + was, kinds.sheet(0, 12), is);
+            }
+        }
         FootMaps y = Edges.under("sees 0;bars if height=9", 23);
         y.cell(24, 0, 9);
         Edges.due("barred", y.step(0, 2), -3);
@@ -522,6 +579,25 @@ public final class OrderEdgesTest {
         Edges.due("the minute", ordered.count(12), 1);
         Edges.due("where it is", ordered.of(0, 0), 6);
         Edges.due("its sheet", ordered.of(0, 4), 0);
+        FootMaps joined = Edges.with(6, 8);
+        for (int cell = 0; cell < 25; cell++) {
+            joined.cell(cell, 3 - cell % 3, 0);
+        }
+        joined.step(0, 2);
+        joined.step(1, 4);
+        joined.smear(8, 0);
+        joined.smear(12, 0);
+        joined.smear(6, 1);
+        joined.join(0, 1);
+        Edges.good("a join of two sheets", joined, 1, joined.undo());
+        Edges.due("the one's cells", joined.of(0, 4), Edges.bits(2, 6, 7));
+        Edges.due("the other one's cells", joined.of(1, 4), Edges.bits(2, 7, 8, 12));
+        Edges.due("both as they were", joined.stale(0) | joined.stale(1), 0);
+        joined.join(1, 0);
+        joined.undo();
+        Edges.due("the one's cells", joined.of(0, 4), Edges.bits(2, 6, 7));
+        Edges.due("the other one's cells", joined.of(1, 4), Edges.bits(2, 7, 8, 12));
+        Edges.due("both as they were", joined.stale(0) | joined.stale(1), 0);
         FootMaps wide = Edges.under("sees 3", 11, 12);
         wide.step(0, 2);
         wide.join(0, 1);

@@ -84,6 +84,8 @@ public final class TextEdgesTest {
         lawFault(Edges.times(400, "9"), 0);
         lawFault("bars if " + Edges.times(98, "not "), 400);
         lawFault(Edges.times(80, "bars;"), 60);
+        lawFault(Edges.times(400, ";"), 0);
+        lawFault("bars" + Edges.times(396, ";"), 5);
     }
 
     private static void tokens() {
@@ -155,6 +157,8 @@ public final class TextEdgesTest {
         lawFault("bars if 1=1 or", 14);
         lawFault("bars if 1=1 or or 1=1", 15);
         lawFault("bars if 1=1 and", 15);
+        lawFault("bars if 1=1 or ;bars", 15);
+        lawFault("bars if 1=1 and;bars", 15);
         lawFault("bars if 1=1 and or 1=1", 16);
         lawFault("bars if 1=1 1=1", 12);
     }
@@ -165,6 +169,10 @@ public final class TextEdgesTest {
         costs("costs 5 if not not 1=2", 1);
         costs("costs 5 if " + Edges.times(95, "not ") + "1=2", 5);
         costs("costs 5 if " + Edges.times(96, "not ") + "1=2", 1);
+        costs("costs 5 if not 1=1", 1);
+        costs("costs 5 if not 1=1 and 1=1", 1);
+        costs("costs 5 if not 1=1 or 1=2", 1);
+        costs("costs 5 if not 1=2 and 1=1", 5);
         costs("costs 5 if not 1=2 and 1=2", 1);
         costs("costs 5 if not (1=2 and 1=2)", 5);
         costs("costs 5 if (1=1 or 1=1) and 1=2", 1);
@@ -176,6 +184,20 @@ public final class TextEdgesTest {
         costs("costs 5 if 3=4", 1);
         costs("costs 5 if 3=0-3", 1);
         lawFault("bars if not", 11);
+        lawFault("bars if not;bars", 11);
+        lawFault("bars if (", 9);
+        lawFault("bars if (;bars", 9);
+        lawFault("bars if (1", 10);
+        lawFault("bars if (1;bars", 10);
+        lawFault("bars if (1=", 11);
+        lawFault("bars if (1=;bars", 11);
+        lawFault("bars if (1=1;bars", 12);
+        lawFault("bars if ((1=1)", 14);
+        lawFault("bars if ((1=1);bars", 14);
+        lawFault("bars if (1=1))", 13);
+        lawFault("bars if;bars", 7);
+        lawFault("bars if 1;bars", 9);
+        lawFault("bars if 1=;bars", 10);
         lawFault("bars if ()", 9);
         lawFault("bars if (1=1", 12);
         lawFault("bars if (1=1]", 12);
@@ -204,6 +226,9 @@ public final class TextEdgesTest {
         lawFault("costs +1", 6);
         lawFault("costs 3*-1", 8);
         lawFault("costs 3+", 8);
+        lawFault("costs 3+;bars", 8);
+        lawFault("costs 3*;bars", 8);
+        lawFault("costs 3- if 1=1", 9);
         lawFault("costs 3*", 8);
         lawFault("costs 3++1", 8);
         lawFault("costs 3(1)", 7);
@@ -219,12 +244,22 @@ public final class TextEdgesTest {
         lawFault("costs 1000", -1);
         lawFault("costs 1001", 6);
         lawFault("costs 9999", 6);
+        lawFault("costs 10000", 6);
+        lawFault("costs 10001", 6);
+        lawFault("costs 1000000", 6);
+        lawFault("costs 999", -1);
         lawFault("costs 2147483648", 6);
         lawFault("costs 4294967297", 6);
         lawFault("costs 18446744073709551617", 6);
         lawFault("costs 1+1001", 8);
         lawFault("costs []", 7);
+        lawFault("costs [", 7);
+        lawFault("costs [;bars", 7);
         lawFault("costs [3", 8);
+        lawFault("costs [3;bars", 8);
+        lawFault("costs [3 if 1=1", 9);
+        lawFault("costs [[3]", 10);
+        lawFault("costs [3]]", 9);
         lawFault("costs [3)", 8);
         lawFault("costs 3]", 7);
         lawFault("costs (3)", 6);
@@ -277,6 +312,16 @@ public final class TextEdgesTest {
         costs("costs " + Edges.times(8, "[9-") + "3" + Edges.times(8, "]"), 3);
         costs("costs " + Edges.times(7, "[9-3*") + "[2]" + Edges.times(7, "]"), 9);
         lawFault("costs " + Edges.times(300, "["), 14);
+        String eight = Edges.times(8, "[") + "1" + Edges.times(8, "]");
+        String tests = Edges.times(8, "(") + "1=1" + Edges.times(8, ")");
+        FootMaps x = Edges.with(12);
+        Edges.due("eight in orders", Edges.orders(x, "step " + eight + "-1 to " + eight + " if " + tests), 1);
+        String[] nine = {"step [" + eight + "] to 1", "step 0 to [" + eight + "]", "pass if (" + tests + ")", "pass if [" + eight + "]=1"};
+        int[] ninthAt = {5 + 8, 10 + 8, 8 + 8, 8 + 8};
+        for (int i = 0; i < nine.length; i++) {
+            Edges.due(nine[i], Edges.orders(x, nine[i]), -6);
+            Edges.due("its fault", x.fault(), ninthAt[i]);
+        }
     }
 
     private static void faultPlaces() {
@@ -417,6 +462,9 @@ public final class TextEdgesTest {
         costs("costs minute", 6);
         costs("costs mood", 4);
         for (String word : new String[] {"done", "latest", "at", "mapped", "at 0", "mapped 0", "to", "times", "minutes", "smears"}) {
+            lawFault("costs " + word, 6);
+        }
+        for (String word : new String[] {"costs", "sees", "bars", "if", "or", "and", "not", "step", "join", "smear", "pass", "to", "with", "of", "times"}) {
             lawFault("costs " + word, 6);
         }
         lawFault("costs kind 3", 11);
