@@ -55,11 +55,19 @@ public final class LanguageTest {
                 got.add(m.getName() + m.getParameterCount());
                 must(m.getReturnType() == (m.getName().equals("few") ? long.class : int.class), m + " answers another type");
                 must(!Modifier.isStatic(m.getModifiers()), m + " is static");
+                for (Class<?> type : m.getParameterTypes()) {
+                    must(type == int.class, m + " takes another type");
+                }
             }
         }
         must(got.equals(due), "the face is " + got);
         must(Modifier.isFinal(FootMaps.class.getModifiers()), "the class is final");
-        must(FootMaps.class.getConstructors().length == 1, "one constructor");
+        must(Modifier.isPublic(FootMaps.class.getModifiers()), "the class is public");
+        must(FootMaps.class.getDeclaredConstructors().length == 1 && FootMaps.class.getConstructors().length == 1
+            && FootMaps.class.getConstructors()[0].getParameterCount() == 0, "one constructor, without numbers");
+        Field[] open = FootMaps.class.getFields();
+        must(open.length == 1 && open[0].getName().equals("NONE") && open[0].getType() == int.class
+            && Modifier.isStatic(open[0].getModifiers()) && Modifier.isFinal(open[0].getModifiers()), "one constant, NONE");
     }
 
     private static void classes() {
